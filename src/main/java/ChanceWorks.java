@@ -146,11 +146,11 @@ public final class ChanceWorks {
 
     public ChanceWorks() {
         tape = new Tape();
-        parser = new Parser(tape);
         code = new Code();
         spare = new Code();
-        machine = new Machine();
-        atlas = new Atlas(machine);
+        parser = new Parser(tape, spare);
+        machine = new Machine(code);
+        atlas = new Atlas(machine, code);
         Calc calc = new Calc();
         solver = new Solver(atlas, calc);
         odds = new Odds(atlas, solver, calc);
@@ -186,7 +186,7 @@ public final class ChanceWorks {
         boolean sound = true;
         try {
             parser.read(spare);
-        } catch (IllegalStateException fault) {
+        } catch (IllegalStateException refused) {
             sound = false;
         }
         tape.length = 0;
@@ -449,32 +449,29 @@ public final class ChanceWorks {
         int done = 0;
         int draws = 0;
         long gained = 0L;
-        boolean stopped = false;
-        while (done < most && machine.outcome == RUNS && !stopped) {
+        for (int n = 0; n < most && machine.outcome == RUNS; n++) {
             machine.act();
             if (machine.wants == CHOOSE) {
                 machine.settle(atlas.chosen(machine));
             } else if (machine.wants == SPREAD) {
-                x = x * 6364136223846793005L + 1442695040888963407L;
-                stopped = byTold && draws >= tolds;
-                if (!stopped && drawn(byTold ? told[draws] : machine.wayAt(x >>> 33), draws)) {
-                    draws++;
+                if (byTold && draws >= tolds) {
+                    break;
                 }
+                x = x * 6364136223846793005L + 1442695040888963407L;
+                draws += drawn(byTold ? told[draws] : machine.wayAt(x >>> 33), draws);
             }
-            if (!stopped) {
-                done++;
-                gained += machine.gained;
-            }
+            done++;
+            gained += machine.gained;
         }
         note(done, draws, gained);
         return machine.outcome;
     }
 
-    /** One draw of a play, kept for its odds; false if there is no such way. */
-    private boolean drawn(int way, int draws) {
+    /** One draw of a play, kept for its odds: how many were drawn, 0 if there is no such way. */
+    private int drawn(int way, int draws) {
         if (way < 0 || way >= machine.ways) {
             machine.fail(BAD_TOLD);
-            return false;
+            return 0;
         }
         if (draws >= drawnWeights.length) {
             drawnWeights = Arrays.copyOf(drawnWeights, draws * 2);
@@ -483,7 +480,7 @@ public final class ChanceWorks {
         drawnWeights[draws] = machine.weights[way];
         drawnTotals[draws] = machine.total;
         machine.settle(way);
-        return true;
+        return 1;
     }
 
     private void note(int done, int draws, long gained) {
@@ -749,6 +746,11 @@ public final class ChanceWorks {
             }
         }
 
+        /** The statement that a function begins with, NONE if it has none. */
+        int firstOf(int function) {
+            return function >= 0 && function < MOST_FUNCTIONS ? firstStatements[function] : NONE;
+        }
+
         int addStatement() {
             int from = statements * COLUMNS;
             if (from + COLUMNS > rows.length) {
@@ -815,8 +817,9 @@ public final class ChanceWorks {
         int faultCode;
         int faultPlace;
 
-        Parser(Tape tape) {
+        Parser(Tape tape, Code code) {
             this.tape = tape;
+            this.code = code;
             varNames = new int[MOST_VARS];
             arrayNames = new int[MOST_ARRAYS];
             functionNames = new int[MOST_FUNCTIONS];
@@ -1067,7 +1070,14 @@ public final class ChanceWorks {
                 boolean called = kind == '(' && code.column(s, SORT) == NOWHERE;
                 int taken = called ? name : behindPlace(s);
                 code.setColumn(s, CALLEE, taken);
-                finish(s, called || taken != NONE && kind == '(' ? CALL : code.column(s, KIND));
+                if (called || taken != NONE && kind == '(') {
+                    code.setColumn(s, KIND, CALL);
+                }
+                if (code.column(s, KIND) == SPREAD) {
+                    spread(s);
+                } else {
+                    finish(s, code.column(s, KIND));
+                }
                 pass(';');
             }
         }
@@ -1144,13 +1154,8 @@ public final class ChanceWorks {
         }
 
         private void finish(int s, int found) {
-            code.setColumn(s, KIND, found);
             if (found == SET) {
                 expression(s, code.column(s, CALLEE));
-                return;
-            }
-            if (found == SPREAD) {
-                spread(s);
                 return;
             }
             openSign('(');
@@ -1357,10 +1362,15 @@ public final class ChanceWorks {
         final int[] memory;
         int shared;
         int open;
+        /** Where in the memory the latest call begins. */
+        int frame;
         final int[] stack;
         int pc;
         final int[] worked;
         int target;
+        /** Where the latest call goes, NONE if it returns its answer. */
+        int going;
+        int answer;
         int outcome;
         int number;
         int failure;
@@ -1372,7 +1382,8 @@ public final class ChanceWorks {
         final int[] values;
         final int[] weights;
 
-        Machine() {
+        Machine(Code code) {
+            this.code = code;
             memory = new int[MOST_SHARED + MOST_CALLS * FRAME];
             stack = new int[256];
             worked = new int[2 * MOST_PAIRS];
@@ -1385,15 +1396,15 @@ public final class ChanceWorks {
             shared = Math.min(program.shared(), MOST_SHARED);
             Arrays.fill(memory, 0);
             System.arraycopy(program.varStarts, 0, memory, 0, Math.min(program.vars, MOST_VARS));
-            int first = program.main >= 0 && program.main < MOST_FUNCTIONS
-                    ? program.firstStatements[program.main] : NONE;
-            memory[shared] = first;
             open = 1;
-            number = 0;
+            frame = shared;
             failure = 0;
             gained = 0;
             wants = NONE;
-            outcome = first == NONE ? ENDS : RUNS;
+            outcome = RUNS;
+            going = program.firstOf(program.main);
+            answer = 0;
+            proceed();
         }
 
         int length() {
@@ -1402,7 +1413,8 @@ public final class ChanceWorks {
 
         void load(Hoard states, int k) {
             states.copyTo(k, memory);
-            open = (states.lengthOf(k) - shared) / FRAME;
+            open = Math.max((states.lengthOf(k) - shared) / FRAME, 1);
+            frame = shared + (open - 1) * FRAME;
             outcome = RUNS;
         }
 
@@ -1411,14 +1423,9 @@ public final class ChanceWorks {
             outcome = FAILS;
         }
 
-        /** Where in the memory the latest call's statement AT is kept. */
-        private int top() {
-            return shared + (open > 0 ? open - 1 : 0) * FRAME;
-        }
-
         /** Does the statement that the latest call is AT, but for what is drawn or chosen. */
         void act() {
-            int s = memory[top()];
+            int s = memory[frame];
             wants = NONE;
             gained = 0;
             failure = 0;
@@ -1432,26 +1439,30 @@ public final class ChanceWorks {
                 outcome = FAILS;
                 return;
             }
+            going = code.column(s, FOLLOW);
+            answer = 0;
             obey(s, code.column(s, KIND));
+            if (wants == NONE && outcome == RUNS) {
+                proceed();
+            }
         }
 
         private void aim(int s) {
             int sort = code.column(s, SORT);
             int index = code.column(s, INDEX);
-            if (sort == CELL) {
-                int cell = work();
-                int place = failure == 0 ? cellAt(index, cell) : 0;
-                if (place == NONE) {
-                    failure = NO_PLACE;
-                }
-                target = place;
-            } else {
+            if (sort != CELL) {
                 target = slot(sort, index);
+                return;
+            }
+            int cell = work();
+            target = failure == 0 ? cellAt(index, cell) : 0;
+            if (target == NONE) {
+                failure = NO_PLACE;
             }
         }
 
         private int slot(int sort, int index) {
-            return sort == OWN ? top() + 1 + index : sort == SHARED ? index : NONE;
+            return sort == OWN ? frame + 1 + index : sort == SHARED ? index : NONE;
         }
 
         private int cellAt(int array, int cell) {
@@ -1470,7 +1481,6 @@ public final class ChanceWorks {
             switch (kind) {
                 case SET:
                     put(target, first);
-                    goOn(s);
                     break;
                 case PICK:
                 case FLIP:
@@ -1481,90 +1491,59 @@ public final class ChanceWorks {
                     offer(first);
                     break;
                 case CALL:
-                    enter(code.column(s, CALLEE), code.column(s, EXPS));
+                    openCall(code.column(s, CALLEE), code.column(s, EXPS));
                     break;
                 case IF:
-                    moveTo(s, first != 0 ? code.column(s, BODY) : code.column(s, OTHER));
+                    int block = code.column(s, first != 0 ? BODY : OTHER);
+                    going = block == NONE ? going : block;
                     break;
                 case WHILE:
-                    whileStatement(s, first != 0);
+                    int body = code.column(s, BODY);
+                    going = first == 0 ? going : body == NONE ? s : body;
                     break;
                 case RETURN:
-                    leave(first);
+                    going = NONE;
+                    answer = first;
                     break;
                 case OBSERVE:
-                    if (first == 0) {
-                        outcome = CUTS;
-                    } else {
-                        goOn(s);
-                    }
+                    outcome = first == 0 ? CUTS : RUNS;
                     break;
                 default:
                     gained = first;
-                    goOn(s);
             }
         }
 
-        private void whileStatement(int s, boolean again) {
-            if (!again) {
-                goOn(s);
-            } else if (code.column(s, BODY) != NONE) {
-                memory[top()] = code.column(s, BODY);
-            }
-        }
-
-        private void moveTo(int s, int there) {
-            if (there == NONE) {
-                goOn(s);
-            } else {
-                memory[top()] = there;
-            }
-        }
-
-        private void goOn(int s) {
-            int behind = code.column(s, FOLLOW);
-            if (behind == NONE) {
-                leave(0);
-            } else {
-                memory[top()] = behind;
-            }
-        }
-
-        private void enter(int function, int many) {
+        private void openCall(int function, int many) {
             if (open >= MOST_CALLS) {
                 fail(TOO_DEEP);
                 return;
             }
-            int first = function >= 0 && function < MOST_FUNCTIONS ? code.firstStatements[function] : NONE;
             open++;
-            int from = top();
-            Arrays.fill(memory, from, from + FRAME, 0);
-            memory[from] = first;
+            frame += FRAME;
+            Arrays.fill(memory, frame, frame + FRAME, 0);
             for (int n = 0; n < many && n < MOST_NAMES; n++) {
-                memory[from + 1 + n] = worked[n];
+                memory[frame + 1 + n] = worked[n];
             }
-            if (first == NONE) {
-                leave(0);
-            }
+            going = code.firstOf(function);
         }
 
-        /** The latest call returns, and so do those that have nothing behind their calls. */
-        private void leave(int what) {
-            int answer = what;
-            for (int n = 0; n < MOST_CALLS; n++) {
-                open = open > 0 ? open - 1 : 0;
-                if (open == 0) {
+        /** The latest call goes on, or returns, and so do those that have nothing behind their calls then. */
+        private void proceed() {
+            for (int n = 0; n <= MOST_CALLS; n++) {
+                if (going != NONE) {
+                    memory[frame] = going;
+                    return;
+                }
+                open--;
+                if (open <= 0) {
                     outcome = ENDS;
                     number = answer;
                     return;
                 }
-                int s = memory[top()];
+                frame -= FRAME;
+                int s = memory[frame];
                 put(slot(code.column(s, SORT), code.column(s, INDEX)), answer);
-                int behind = code.column(s, FOLLOW);
-                if (behind != NONE) {
-                    memory[top()] = behind;
-                    return;
-                }
+                going = code.column(s, FOLLOW);
                 answer = 0;
             }
         }
@@ -1621,7 +1600,9 @@ public final class ChanceWorks {
             if (way >= 0 && way < ways) {
                 put(target, values[way]);
             }
-            goOn(memory[top()]);
+            going = code.column(memory[frame], FOLLOW);
+            answer = 0;
+            proceed();
         }
 
         int wayAt(long random) {
@@ -1676,7 +1657,7 @@ public final class ChanceWorks {
             if (op == OP_NUMBER) {
                 return arg;
             }
-            int place = op == OP_OWN ? top() + 1 + arg : arg;
+            int place = op == OP_OWN ? frame + 1 + arg : arg;
             return place >= 0 && place < memory.length ? memory[place] : 0;
         }
 
@@ -1835,8 +1816,9 @@ public final class ChanceWorks {
         int rings;
         int greatest;
 
-        Atlas(Machine machine) {
+        Atlas(Machine machine, Code code) {
             this.machine = machine;
+            this.code = code;
             web = new Web();
             states = new Hoard(MOST_STATES, 2048);
             endings = new Hoard(MOST_ENDINGS, 2048);
@@ -2074,6 +2056,13 @@ public final class ChanceWorks {
             edges = new int[64];
             open = new boolean[0];
             knotFirsts = new int[1];
+            knotOf = new int[0];
+            order = new int[0];
+            seen = new int[0];
+            low = new int[0];
+            cursor = new int[0];
+            path = new int[0];
+            heap = new int[0];
         }
 
         private void makeRows() {
@@ -2771,14 +2760,10 @@ public final class ChanceWorks {
             Ratio[] row = old;
             if (row.length < many) {
                 row = new Ratio[Math.min(2 * many, MOST_STATES)];
-                System.arraycopy(old, 0, row, 0, old.length);
             }
             for (int k = 0; k < many && k < row.length; k++) {
-                if (row[k] == null) {
-                    row[k] = new Ratio();
-                } else {
-                    row[k].putZero();
-                }
+                row[k] = k < old.length && old[k] != null ? old[k] : new Ratio();
+                row[k].putZero();
             }
             return row;
         }
@@ -3182,6 +3167,8 @@ public final class ChanceWorks {
             weights = new Num[0];
             groups = new Hoard(MOST_GROUPS, 8192);
             sums = new Num[0];
+            lefts = new int[0];
+            rights = new int[0];
             key = new int[4];
         }
 
