@@ -2085,9 +2085,10 @@ public final class ChanceWorks {
             makeRows();
             total = atlas.states.total;
             if (targets.length < atlas.nexts) {
-                targets = new int[atlas.nexts * 2];
-                sources = new int[atlas.nexts * 2];
-                edges = new int[atlas.nexts * 2];
+                int room = atlas.nexts + atlas.nexts / 4;
+                targets = new int[room];
+                sources = new int[room];
+                edges = new int[room];
             }
             Arrays.fill(backFirsts, 0);
             int links = 0;
