@@ -107,7 +107,6 @@ public final class ChanceWorks {
     private static final int NUMBER = 141;
     private static final int END = 142;
     private static final int BAD = 143;
-    private static final int WORD = 150;
     private static final int WORD_VAR = 150;
     private static final int WORD_ARR = 151;
     private static final int WORD_FUNC = 152;
