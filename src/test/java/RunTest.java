@@ -118,6 +118,7 @@ public final class RunTest {
         Check.due("names in order", ends("func f(a, b, c, d) { return a * 1000 + b * 100 + c * 10 + d; } func main() { local s = 5; s = f(1, s - 3, 3, 4); return s; }"), 1234);
         Check.due("into a var", ends("var v; func f() { v = 3; return v + 1; } func main() { v = f(); return v; }"), 4);
         Check.due("returns that end others", ends("var v; func f(n) { v = v + 1; if n { f(n - 1); } } func main() { f(5); return v; }"), 6);
+        Check.due("a call last of all returns 0", ends("var v; func f() { return 7; } func g() { v = f(); } func main() { local s = 5; s = g(); return s * 10 + v; }"), 7);
         Check.due("variables begin as 0", ends("func f(n) { if n { local k = 7; return k; } return k; } func main() { local s = 0; s = f(1); s = f(0); return s; }"), 0);
         Check.due("twelve calls", ends("func f(n) { local s = 0; if n { s = f(n - 1); } return s + 1; } func main() { local s = 0; s = f(10); return s; }"), 11);
         ChanceWorks x = Check.house("var v; func f(n) { v = v + 1; if n { f(n - 1); } } func main() { f(11); }");

@@ -142,6 +142,9 @@ public final class SolveTest {
         Check.due("the ring", y.count(8), 34);
         Check.due("solve() of 34", y.solve(), -2);
         Check.due("show(9, 0)", Check.of(() -> y.show(9, 0)), "IllegalStateException");
+        ChanceWorks odd = Check.explored("var v; var c; func main() { while v < 99 { v ~ { (v + 1) % 11 : 9, 99 : 1 }; c = 0; } }");
+        Check.due("the ring", odd.count(8), 33);
+        Check.due("solve() of 33", odd.solve(), -2);
         // A ring that no run comes to by the plan, and one that is not open by the plan.
         ChanceWorks z = Check.explored("var v; var c; func main() { c = choose(2); if c { while v < 99 { v ~ { (v + 1) % 17 : 1, 99 : 1 }; } } }");
         Check.due("solve() of a ring aside", z.solve(), -2);
