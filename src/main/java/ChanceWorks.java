@@ -153,7 +153,7 @@ public final class ChanceWorks {
         Calc calc = new Calc();
         solver = new Solver(atlas, calc);
         odds = new Odds(atlas, solver, calc);
-        shown = new Ratio();
+        shown = new Ratio(2);
         told = new int[MOST_TOLD];
         record = new long[5];
         lastShared = new int[MOST_SHARED];
@@ -306,9 +306,7 @@ public final class ChanceWorks {
         if (!atlas.explored) {
             throw new IllegalStateException("nothing is explored");
         }
-        int done = solver.findVisits();
-        odds.weighed = false;
-        return done;
+        return solver.findVisits();
     }
 
     public int show(int kind, int v)
@@ -405,7 +403,7 @@ public final class ChanceWorks {
         if (!code.isShared(i) || !code.isShared(j)) {
             throw new IndexOutOfBoundsException("no such variable");
         }
-        return odds.apart(i, j, NONE);
+        return odds.arrange(i, j, NONE) && odds.tablesAgree();
     }
 
     public boolean given(int i, int j, int third) throws IllegalStateException, IndexOutOfBoundsException {
@@ -415,7 +413,7 @@ public final class ChanceWorks {
         if (!code.isShared(i) || !code.isShared(j) || !code.isShared(third)) {
             throw new IndexOutOfBoundsException("no such variable");
         }
-        return odds.apart(i, j, third);
+        return odds.arrange(i, j, third) && odds.tablesAgree();
     }
 
     private boolean showsNow(int kind) {
@@ -429,9 +427,9 @@ public final class ChanceWorks {
             return false;
         }
         if (kind <= 1) {
-            return odds.keeps();
+            return odds.weighs(Odds.KEPT);
         }
-        return kind != 10 || odds.anyEnds();
+        return kind != 10 || odds.weighs(Odds.ENDED);
     }
 
     private void showPlay() {
@@ -1356,6 +1354,7 @@ public final class ChanceWorks {
     /** A run: its memory has the vars and cells, then of each open call what it is AT and its variables. */
     private static final class Machine {
         static final int FRAME = MOST_OWN + 1;
+        static final int MEMORY = MOST_SHARED + MOST_CALLS * FRAME;
 
         Code code;
         final int[] memory;
@@ -1383,7 +1382,7 @@ public final class ChanceWorks {
 
         Machine(Code code) {
             this.code = code;
-            memory = new int[MOST_SHARED + MOST_CALLS * FRAME];
+            memory = new int[MEMORY];
             stack = new int[256];
             worked = new int[2 * MOST_PAIRS];
             values = new int[64];
@@ -1695,15 +1694,17 @@ public final class ChanceWorks {
     /** Rows of numbers, each kept once and numbered as they come. */
     private static final class Hoard {
         final int most;
+        final int widest;
         final int slots;
         int[] starts;
         int[] table;
         int[] pool;
         int total;
 
-        /** Slots are a power of two, at least twice as many as the rows. */
-        Hoard(int most, int slots) {
+        /** So many rows, of so many numbers each; slots are a power of two, at least twice as many as the rows. */
+        Hoard(int most, int widest, int slots) {
             this.most = most;
+            this.widest = widest;
             this.slots = slots;
             starts = new int[1];
             table = new int[0];
@@ -1779,12 +1780,12 @@ public final class ChanceWorks {
             if (table[slot] != 0) {
                 return table[slot] - 1;
             }
-            if (total >= limit || total >= most) {
+            if (total >= limit || total >= most || length > widest) {
                 return NONE;
             }
             int from = starts[total];
             if (from + length > pool.length) {
-                pool = Arrays.copyOf(pool, (from + length) * 2);
+                pool = Arrays.copyOf(pool, Math.min((from + length) * 2, most * widest));
             }
             System.arraycopy(row, 0, pool, from, length);
             total++;
@@ -1819,8 +1820,8 @@ public final class ChanceWorks {
             this.machine = machine;
             this.code = code;
             web = new Web();
-            states = new Hoard(MOST_STATES, 2048);
-            endings = new Hoard(MOST_ENDINGS, 2048);
+            states = new Hoard(MOST_STATES, Machine.MEMORY, 2048);
+            endings = new Hoard(MOST_ENDINGS, MOST_SHARED + 1, 2048);
             firsts = new int[1];
             totals = new int[0];
             gains = new int[0];
@@ -1997,9 +1998,10 @@ public final class ChanceWorks {
                 return false;
             }
             if (nexts >= sorts.length) {
-                sorts = Arrays.copyOf(sorts, nexts * 2);
-                numbers = Arrays.copyOf(numbers, nexts * 2);
-                weights = Arrays.copyOf(weights, nexts * 2);
+                int room = Math.min(nexts * 2, MOST_NEXTS);
+                sorts = Arrays.copyOf(sorts, room);
+                numbers = Arrays.copyOf(numbers, room);
+                weights = Arrays.copyOf(weights, room);
             }
             sorts[nexts] = sort;
             numbers[nexts] = to;
@@ -2084,7 +2086,7 @@ public final class ChanceWorks {
             makeRows();
             total = atlas.states.total;
             if (targets.length < atlas.nexts) {
-                int room = atlas.nexts + atlas.nexts / 4;
+                int room = Math.min(atlas.nexts * 2, MOST_NEXTS);
                 targets = new int[room];
                 sources = new int[room];
                 edges = new int[room];
@@ -2246,7 +2248,8 @@ public final class ChanceWorks {
             limbs = new int[Math.max(room, 2)];
         }
 
-        private void widen(int room) {
+        /** Half as much again: so all the rows that a number ever has are three times its last one at most. */
+        void widen(int room) {
             if (room > limbs.length) {
                 limbs = Arrays.copyOf(limbs, room + room / 2 + 1);
             }
@@ -2479,9 +2482,9 @@ public final class ChanceWorks {
         final Num bottom;
         int sign;
 
-        Ratio() {
-            top = new Num(2);
-            bottom = new Num(2);
+        Ratio(int room) {
+            top = new Num(room);
+            bottom = new Num(room);
             bottom.put(1);
         }
 
@@ -2560,8 +2563,10 @@ public final class ChanceWorks {
         Num x;
         Num y;
         final Num spare;
+        final long[] factors;
 
         Calc() {
+            factors = new long[4];
             quotient = new Num(8);
             rest = new Num(8);
             divisor = new Num(8);
@@ -2617,7 +2622,9 @@ public final class ChanceWorks {
             x.copy(ordered ? a : b);
             y.copy(ordered ? b : a);
             for (int n = 0; n < 1000000 && y.length > 0 && x.length > 2; n++) {
-                if (y.length <= 2 || !leap()) {
+                if (y.length > 2 && leap()) {
+                    blend(factors[0], factors[1], factors[2], factors[3]);
+                } else {
                     divide(x, y);
                     Num old = x;
                     x = y;
@@ -2630,7 +2637,7 @@ public final class ChanceWorks {
             }
         }
 
-        /** Lehmer's way: many steps at once, found from the highest bits alone; false if none is sure. */
+        /** Lehmer's way: the factors of many steps at once, from the highest bits alone; false if none is sure. */
         private boolean leap() {
             int shift = Math.max(x.bits() - 2 * Num.BITS, 0);
             long high = x.high(shift);
@@ -2657,19 +2664,17 @@ public final class ChanceWorks {
                 high = low;
                 low = over;
             }
-            if (b == 0) {
-                return false;
-            }
-            blend(a, b, c, d);
-            return true;
+            factors[0] = a;
+            factors[1] = b;
+            factors[2] = c;
+            factors[3] = d;
+            return b != 0;
         }
 
         /** x and y become a x + b y and c x + d y, which are not below 0. */
         private void blend(long a, long b, long c, long d) {
             int many = x.length;
-            if (y.limbs.length < many) {
-                y.limbs = Arrays.copyOf(y.limbs, many + 2);
-            }
+            y.widen(many);
             Arrays.fill(y.limbs, y.length, many, 0);
             long one = 0;
             long two = 0;
@@ -2719,6 +2724,10 @@ public final class ChanceWorks {
     /** Finds the visits of states with the plan as it is, and the best plan. */
     private static final class Solver {
         static final int WIDTH = MOST_RING + 1;
+        /** A fraction of 256 bits, with a factor of 31 bits and a carry. */
+        static final int KEPT_LIMBS = 11;
+        /** No cell is above the product of a ring's totals, of 23 bits each. */
+        static final int CELL_LIMBS = 25;
 
         final Atlas atlas;
         final Web web;
@@ -2729,8 +2738,10 @@ public final class ChanceWorks {
         Ratio[] worths;
         /** What the numbers of one sum are counted in. */
         final Num whole;
-        final Num top;
-        final Num bottom;
+        /** A fraction that is worked on: it may be long before it is in lowest terms, so none that is kept is. */
+        final Ratio part;
+        final Num factor;
+        final Num scaled;
         final Num term;
         final Num sum;
         final Num less;
@@ -2745,8 +2756,9 @@ public final class ChanceWorks {
             visits = new Ratio[0];
             worths = new Ratio[0];
             whole = new Num(4);
-            top = new Num(4);
-            bottom = new Num(4);
+            part = new Ratio(4);
+            factor = new Num(2);
+            scaled = new Num(4);
             term = new Num(4);
             sum = new Num(4);
             less = new Num(4);
@@ -2762,7 +2774,7 @@ public final class ChanceWorks {
                 row = new Ratio[Math.min(2 * many, MOST_STATES)];
             }
             for (int k = 0; k < many && k < row.length; k++) {
-                row[k] = k < old.length && old[k] != null ? old[k] : new Ratio();
+                row[k] = k < old.length && old[k] != null ? old[k] : new Ratio(KEPT_LIMBS);
                 row[k].putZero();
             }
             return row;
@@ -2794,17 +2806,16 @@ public final class ChanceWorks {
             return 0;
         }
 
-        /** How often a run comes to a next of the state, in parts of its weight: top and bottom. */
+        /** The part becomes how often a run comes to a next of the state, for each one of its weight. */
         void unit(int k) {
-            top.copy(visits[k].top);
-            bottom.copy(visits[k].bottom);
+            part.copy(visits[k]);
             int by = atlas.divisorOf(k);
             if (by > 1) {
-                int shared = commonInt(by, top.rest(by));
+                int shared = commonInt(by, part.top.rest(by));
                 if (shared > 1) {
-                    top.over(shared);
+                    part.top.over(shared);
                 }
-                bottom.times(by / shared);
+                part.bottom.times(by / shared);
             }
         }
 
@@ -2844,7 +2855,7 @@ public final class ChanceWorks {
             for (int back = web.backFirsts[k]; back < web.backFirsts[k + 1]; back++) {
                 if (comesIn(back, k)) {
                     unit(web.sources[back]);
-                    calc.join(whole, bottom);
+                    calc.join(whole, part.bottom);
                 }
             }
         }
@@ -2857,30 +2868,43 @@ public final class ChanceWorks {
             for (int back = web.backFirsts[k]; back < web.backFirsts[k + 1]; back++) {
                 if (comesIn(back, k)) {
                     unit(web.sources[back]);
-                    countTerm(whole, atlas.weights[web.edges[back]]);
-                    sum.plus(term);
+                    addTerm(atlas.weights[web.edges[back]]);
                 }
             }
         }
 
-        /** The term is times top / bottom, counted in parts of a whole. */
-        void countTerm(Num parts, long times) {
-            if (parts.compare(bottom) == 0) {
-                term.copy(top);
+        /** The part, so many times, is added to the sum, or (below 0) to what is less; the whole is a multiple of it. */
+        void addTerm(long times) {
+            factor.put(Math.abs(times));
+            if (whole.compare(part.bottom) == 0) {
+                term.product(part.top, factor);
             } else {
-                calc.divide(parts, bottom);
-                term.product(top, calc.quotient);
+                calc.divide(whole, part.bottom);
+                scaled.product(part.top, factor);
+                term.product(scaled, calc.quotient);
             }
-            term.times(times);
+            if (times > 0) {
+                sum.plus(term);
+            } else {
+                less.plus(term);
+            }
         }
 
         /** Keeps above / below, which is not 0, in lowest terms; false if it has too many bits. */
         private boolean keep(Ratio where, Num above, Num below) {
-            where.sign = 1;
-            where.top.copy(above);
-            where.bottom.copy(below);
-            calc.reduce(where.top, where.bottom);
-            return where.fits();
+            part.sign = 1;
+            part.top.copy(above);
+            part.bottom.copy(below);
+            calc.reduce(part.top, part.bottom);
+            return keepPart(where);
+        }
+
+        private boolean keepPart(Ratio where) {
+            boolean fits = part.fits();
+            if (fits) {
+                where.copy(part);
+            }
+            return fits;
         }
 
         private Num cell(int row, int column) {
@@ -2889,7 +2913,7 @@ public final class ChanceWorks {
             }
             int at = row * WIDTH + column;
             if (cells[at] == null) {
-                cells[at] = new Num(2);
+                cells[at] = new Num(CELL_LIMBS);
             }
             return cells[at];
         }
@@ -3017,36 +3041,26 @@ public final class ChanceWorks {
             for (int k = 0; k < states; k++) {
                 long times = kind == 9 ? 1 : atlas.gains[k];
                 if (visits[k].sign != 0 && times != 0) {
-                    top.copy(visits[k].top);
-                    bottom.copy(visits[k].bottom);
-                    countTerm(whole, Math.abs(times));
-                    if (times > 0) {
-                        sum.plus(term);
-                    } else {
-                        less.plus(term);
-                    }
+                    part.copy(visits[k]);
+                    addTerm(times);
                 }
             }
-            showDifference(whole, out);
+            settle(whole);
+            out.copy(part);
         }
 
-        /** Shows the sum less what is to be taken from it, by what is below the line. */
-        void showDifference(Num below, Ratio out) {
+        /** The part becomes the sum without what is less, by what is below the line. */
+        void settle(Num below) {
             int order = sum.compare(less);
             if (order == 0) {
-                out.putZero();
+                part.putZero();
                 return;
             }
-            if (order > 0) {
-                sum.minus(less);
-                out.top.copy(sum);
-            } else {
-                less.minus(sum);
-                out.top.copy(less);
-            }
-            out.bottom.copy(below);
-            out.sign = order;
-            calc.reduce(out.top, out.bottom);
+            part.sign = order;
+            part.top.copy(order > 0 ? sum : less);
+            part.top.minus(order > 0 ? less : sum);
+            part.bottom.copy(below);
+            calc.reduce(part.top, part.bottom);
         }
 
         int makePlan() {
@@ -3062,12 +3076,8 @@ public final class ChanceWorks {
             for (int n = 0; n < web.total; n++) {
                 int k = web.order[n];
                 taken[k] = 0;
-                if (atlas.chooses[k] || atlas.waysOf(k) == 1) {
-                    findWorth(k);
-                } else {
-                    mixWorths(k);
-                }
-                if (!worths[k].fits()) {
+                boolean fits = atlas.chooses[k] || atlas.waysOf(k) == 1 ? findWorth(k) : mixWorths(k);
+                if (!fits) {
                     return -3;
                 }
             }
@@ -3082,7 +3092,7 @@ public final class ChanceWorks {
             return atlas.sorts[at] == RUNS ? worths[atlas.numbers[at]] : null;
         }
 
-        private void findWorth(int k) {
+        private boolean findWorth(int k) {
             int first = atlas.firsts[k];
             for (int n = 1; n < atlas.waysOf(k); n++) {
                 if (isAbove(worthBehind(first + n), worthBehind(first + taken[k]))) {
@@ -3094,6 +3104,7 @@ public final class ChanceWorks {
                 worths[k].copy(behind);
             }
             worths[k].addWhole(atlas.gains[k], term);
+            return worths[k].fits();
         }
 
         private boolean isAbove(Ratio a, Ratio b) {
@@ -3107,7 +3118,7 @@ public final class ChanceWorks {
             return sum.compare(less) * signA > 0;
         }
 
-        private void mixWorths(int k) {
+        private boolean mixWorths(int k) {
             whole.put(1);
             for (int at = atlas.firsts[k]; at < atlas.firsts[k + 1]; at++) {
                 Ratio behind = worthBehind(at);
@@ -3120,275 +3131,346 @@ public final class ChanceWorks {
             for (int at = atlas.firsts[k]; at < atlas.firsts[k + 1]; at++) {
                 Ratio behind = worthBehind(at);
                 if (behind != null && behind.sign != 0) {
-                    top.copy(behind.top);
-                    bottom.copy(behind.bottom);
-                    countTerm(whole, atlas.weights[at]);
-                    if (behind.sign > 0) {
-                        sum.plus(term);
-                    } else {
-                        less.plus(term);
-                    }
+                    part.copy(behind);
+                    addTerm((long) behind.sign * atlas.weights[at]);
                 }
             }
             whole.times(atlas.totals[k]);
-            showDifference(whole, worths[k]);
+            settle(whole);
+            return keepPart(worths[k]);
         }
     }
 
-    /** What runs come to, by weight: found when it is first asked for after solving. */
+    /** What runs come to, by weight. Weights may be long: each is found when it is asked for, and none is kept. */
     private static final class Odds {
-        static final int FAILURE = MOST_ENDINGS;
-        static final int CUT = FAILURE + BAD_CHOICE + 1;
-        static final int MOST_GROUPS = 4 * MOST_ENDINGS;
+        /** Kinds of show(), and one more: what all endings weigh. */
+        static final int KEPT = 6;
+        static final int ENDED = 7;
+        static final int MOST_GROUPS = 3 * MOST_ENDINGS;
+        /** The shorter side of a table of 1000 cells. */
+        static final int MOST_WIDE = 31;
 
         final Atlas atlas;
         final Solver solver;
         final Calc calc;
-        boolean weighed;
-        /** All weights are counted in parts of this. */
-        final Num whole;
-        final Num kept;
-        final Num ended;
-        Num[] weights;
-        /** Endings that are alike in the third, with the first, the second, or both of the others. */
+        final Num held;
+        /** Endings that are alike in the third (a table of its own), there in the first, there in the second. */
         final Hoard groups;
-        Num[] sums;
+        final int[] key;
+        /** Of a table how many numbers the first and the second have in it, and where its cells begin. */
         int[] lefts;
         int[] rights;
-        final int[] key;
+        int[] bases;
+        /** Of a group of the first or the second: its number in its table. */
+        int[] ranks;
+        /** The cell of each ending, NONE if no run comes to it. */
+        int[] cellOf;
+        /** The nexts that lead to a cell, in their order: the first of them, and which comes behind each. */
+        int[] heads;
+        int[] links;
+        Num[] edges;
 
         Odds(Atlas atlas, Solver solver, Calc calc) {
             this.atlas = atlas;
             this.solver = solver;
             this.calc = calc;
-            whole = new Num(4);
-            kept = new Num(4);
-            ended = new Num(4);
-            weights = new Num[0];
-            groups = new Hoard(MOST_GROUPS, 8192);
-            sums = new Num[0];
+            held = new Num(4);
+            groups = new Hoard(MOST_GROUPS, 3, 8192);
+            key = new int[3];
             lefts = new int[0];
             rights = new int[0];
-            key = new int[4];
+            bases = new int[0];
+            ranks = new int[0];
+            cellOf = new int[0];
+            heads = new int[0];
+            links = new int[0];
+            edges = new Num[0];
         }
 
-        boolean keeps() {
-            weigh();
-            return kept.length > 0;
-        }
-
-        boolean anyEnds() {
-            weigh();
-            return ended.length > 0;
-        }
-
-        private Num weight(int i) {
-            if (weights[i] == null) {
-                weights[i] = new Num(2);
-            }
-            return weights[i];
-        }
-
-        private void weigh() {
-            if (weighed) {
-                return;
-            }
-            weighed = true;
-            if (weights.length == 0) {
-                weights = new Num[CUT + 1];
-            }
-            for (int i = 0; i < weights.length; i++) {
-                if (weights[i] != null) {
-                    weights[i].put(0);
-                }
-            }
-            int states = atlas.states.total;
-            whole.put(1);
-            for (int k = 0; k < states; k++) {
-                if (leaves(k)) {
-                    solver.unit(k);
-                    calc.join(whole, solver.bottom);
-                }
-            }
-            for (int k = 0; k < states; k++) {
-                if (leaves(k)) {
-                    weighNexts(k);
-                }
-            }
-            if (states == 0) {
-                weight(0).put(1);
-            }
-            addUp();
-        }
-
-        /** Whether runs come from this state to what is no state. */
-        private boolean leaves(int k) {
-            if (solver.visits[k].sign == 0) {
-                return false;
-            }
-            for (int at = atlas.firsts[k]; at < atlas.firsts[k + 1]; at++) {
-                if (atlas.sorts[at] != RUNS && atlas.isTaken(k, at)) {
-                    return true;
-                }
-            }
-            return false;
-        }
-
-        private void weighNexts(int k) {
-            solver.unit(k);
-            for (int at = atlas.firsts[k]; at < atlas.firsts[k + 1]; at++) {
-                int sort = atlas.sorts[at];
-                if (sort != RUNS && atlas.isTaken(k, at)) {
-                    solver.countTerm(whole, atlas.weights[at]);
-                    int to = atlas.numbers[at];
-                    weight(sort == ENDS ? to : sort == FAILS ? FAILURE + to : CUT).plus(solver.term);
-                }
+        /** How often the weight of what a next leads to counts in what is asked. */
+        private long share(int kind, int v, int sort, int number) {
+            boolean ends = sort == ENDS;
+            switch (kind) {
+                case 0:
+                    return ends && lastOf(number) == v ? 1 : 0;
+                case 1:
+                case 3:
+                    return sort == FAILS && number == v ? 1 : 0;
+                case 2:
+                    return ends && number == v ? 1 : 0;
+                case 4:
+                    return sort == CUTS ? 1 : 0;
+                case 5:
+                    return sort != RUNS ? 1 : 0;
+                case KEPT:
+                    return ends || sort == FAILS ? 1 : 0;
+                case ENDED:
+                    return ends ? 1 : 0;
+                default:
+                    return ends ? lastOf(number) : 0;
             }
         }
 
-        private void addUp() {
-            ended.put(0);
-            for (int e = 0; e < atlas.endings.total; e++) {
-                ended.plus(weight(e));
-            }
-            kept.copy(ended);
-            for (int f = FAILURE; f < CUT; f++) {
-                kept.plus(weight(f));
-            }
+        /** The number with which an ending ENDS. */
+        private int lastOf(int e) {
+            return atlas.endings.part(e, atlas.code.shared());
         }
 
-        /** Shows kinds 0 to 6 and 10: a sum, less another one, by what is below the line. */
-        void showWeight(int kind, int v, Ratio out) {
-            weigh();
-            Num sum = solver.sum;
-            Num less = solver.less;
-            sum.put(0);
-            less.put(0);
-            if (kind == 0 || kind == 10) {
-                sumEndings(kind, v);
-            } else if (kind == 2) {
-                sum.copy(weight(v));
-            } else if (kind == 1 || kind == 3) {
-                if (v >= NO_PLACE && v <= BAD_CHOICE) {
-                    sum.copy(weight(FAILURE + v));
-                }
-            } else if (kind == 4) {
-                sum.copy(weight(CUT));
-            } else if (kind == 5) {
-                sum.copy(whole);
-                less.copy(kept);
-                less.plus(weight(CUT));
-            } else {
-                sum.copy(kept);
-            }
-            solver.showDifference(kind <= 1 ? kept : kind == 10 ? ended : whole, out);
-        }
-
-        private void sumEndings(int kind, int v) {
-            int last = atlas.code.shared();
-            for (int e = 0; e < atlas.endings.total; e++) {
-                int number = atlas.endings.part(e, last);
-                if (kind == 0 && number == v) {
-                    solver.sum.plus(weight(e));
-                } else if (kind == 10 && number != 0) {
-                    solver.term.copy(weight(e));
-                    solver.term.times(Math.abs((long) number));
-                    if (number > 0) {
-                        solver.sum.plus(solver.term);
-                    } else {
-                        solver.less.plus(solver.term);
+        /** How many units of a state count in what is asked. */
+        private long unitsOf(int k, int kind, int v) {
+            long units = 0;
+            if (solver.visits[k].sign != 0) {
+                for (int at = atlas.firsts[k]; at < atlas.firsts[k + 1]; at++) {
+                    if (atlas.isTaken(k, at)) {
+                        units += share(kind, v, atlas.sorts[at], atlas.numbers[at]) * atlas.weights[at];
                     }
                 }
             }
+            return units;
         }
 
-        private int group(int tag, int third, int left, int right) {
-            key[0] = tag;
-            key[1] = third;
-            key[2] = left;
-            key[3] = right;
-            int before = groups.total;
-            int id = groups.enter(key, 4, MOST_GROUPS);
-            if (id == NONE) {
-                return 0;
+        /** Whether anything of a kind weighs. */
+        boolean weighs(int kind) {
+            int states = atlas.states.total;
+            boolean found = states == 0;
+            for (int k = 0; k < states && !found; k++) {
+                found = unitsOf(k, kind, 0) != 0;
             }
-            if (id == before) {
-                lefts[id] = 0;
-                rights[id] = 0;
-                if (sums[id] == null) {
-                    sums[id] = new Num(2);
+            return found;
+        }
+
+        /** The solver's sum, and what is less, become what is asked, in parts of its whole. */
+        private void weigh(int kind, int v) {
+            int states = atlas.states.total;
+            // A program without a state has one ending, of the weight 1.
+            solver.sum.put(states == 0 ? share(kind, v, ENDS, 0) : 0);
+            solver.less.put(0);
+            for (int k = 0; k < states; k++) {
+                long units = unitsOf(k, kind, v);
+                if (units != 0) {
+                    solver.unit(k);
+                    solver.addTerm(units);
                 }
-                sums[id].put(0);
             }
-            return id;
         }
 
-        /** Whether i and j are independent for each number of a third one (of all at once, third NONE). */
-        boolean apart(int i, int j, int third) {
-            weigh();
-            if (sums.length == 0) {
-                sums = new Num[MOST_GROUPS];
+        /** Shows kinds 0 to 6 and 10: some weights by all weights of another kind, or by themselves. */
+        void showWeight(int kind, int v, Ratio out) {
+            int all = kind <= 1 ? KEPT : kind == 10 ? ENDED : kind;
+            solver.whole.put(1);
+            for (int k = 0; k < atlas.states.total; k++) {
+                if (unitsOf(k, all, v) != 0) {
+                    solver.unit(k);
+                    calc.join(solver.whole, solver.part.bottom);
+                }
+            }
+            held.copy(solver.whole);
+            if (all != kind) {
+                weigh(all, v);
+                held.copy(solver.sum);
+            }
+            weigh(kind, v);
+            if (kind == 5) {
+                solver.less.copy(solver.sum);
+                solver.sum.copy(solver.whole);
+            }
+            solver.settle(held);
+            out.copy(solver.part);
+        }
+
+        private void makeRows() {
+            if (lefts.length == 0) {
                 lefts = new int[MOST_GROUPS];
                 rights = new int[MOST_GROUPS];
+                bases = new int[MOST_GROUPS];
+                ranks = new int[MOST_GROUPS];
+                cellOf = new int[MOST_ENDINGS];
+                heads = new int[MOST_ENDINGS];
+                edges = new Num[MOST_WIDE];
             }
+            if (links.length < atlas.nexts) {
+                links = new int[Math.min(2 * atlas.nexts, MOST_NEXTS)];
+            }
+        }
+
+        /**
+         * The endings with one number of a third (with any, third NONE) are a table, with a row for each number of
+         * the one of i and j and a column for each of the other. They are independent there if each cell weighs
+         * something, which is told here, and all rows are multiples of the first one, which tablesAgree() tells.
+         */
+        boolean arrange(int i, int j, int third) {
+            makeRows();
             groups.clear();
-            Hoard endings = atlas.endings;
-            long pairs = 0;
-            for (int e = 0; e < endings.total; e++) {
-                if (weight(e).length > 0) {
-                    pairs += countGroups(third == NONE ? 0 : endings.part(e, third), endings.part(e, i), endings.part(e, j));
+            int endings = markEndings();
+            for (int e = 0; e < atlas.endings.total; e++) {
+                if (cellOf[e] != NONE) {
+                    int table = tableOf(e, third);
+                    rankOf(1, table, atlas.endings.part(e, i), lefts);
+                    rankOf(2, table, atlas.endings.part(e, j), rights);
                 }
             }
-            for (int g = 0; g < groups.total; g++) {
-                pairs -= (long) lefts[g] * rights[g];
-            }
-            // Where a pair never comes together though each of it comes, no sum is needed.
-            if (pairs != 0) {
+            int cells = placeTables(endings);
+            if (cells > endings) {
                 return false;
             }
-            for (int e = 0; e < endings.total; e++) {
-                if (weight(e).length > 0) {
-                    addToGroups(e, third == NONE ? 0 : endings.part(e, third), endings.part(e, i), endings.part(e, j));
+            for (int e = 0; e < atlas.endings.total; e++) {
+                if (cellOf[e] != NONE) {
+                    int table = tableOf(e, third);
+                    int row = rankOf(1, table, atlas.endings.part(e, i), lefts);
+                    int column = rankOf(2, table, atlas.endings.part(e, j), rights);
+                    boolean tall = lefts[table] >= rights[table];
+                    cellOf[e] = bases[table] + (tall ? row * rights[table] + column : column * lefts[table] + row);
                 }
             }
-            return productsAgree();
+            return linkCells(cells);
         }
 
-        /** How many pairs are new (1 or 0). */
-        private int countGroups(int third, int left, int right) {
-            int all = group(0, third, 0, 0);
+        /** Tells the endings that runs come to: how many they are. */
+        private int markEndings() {
+            Arrays.fill(cellOf, NONE);
+            int many = 0;
+            for (int k = 0; k < atlas.states.total; k++) {
+                for (int at = atlas.firsts[k]; at < atlas.firsts[k + 1]; at++) {
+                    if (comesToEnd(k, at) && cellOf[atlas.numbers[at]] == NONE) {
+                        cellOf[atlas.numbers[at]] = 0;
+                        many++;
+                    }
+                }
+            }
+            return many;
+        }
+
+        private boolean comesToEnd(int k, int at) {
+            return atlas.sorts[at] == ENDS && atlas.isTaken(k, at) && solver.visits[k].sign != 0;
+        }
+
+        private int group(int tag, int first, int second) {
+            key[0] = tag;
+            key[1] = first;
+            key[2] = second;
+            return Math.max(groups.enter(key, 3, MOST_GROUPS), 0);
+        }
+
+        private int tableOf(int e, int third) {
             int before = groups.total;
-            group(1, third, left, 0);
-            lefts[all] += groups.total - before;
-            before = groups.total;
-            group(2, third, 0, right);
-            rights[all] += groups.total - before;
-            before = groups.total;
-            group(3, third, left, right);
-            return groups.total - before;
+            int table = group(0, third == NONE ? 0 : atlas.endings.part(e, third), 0);
+            if (table == before) {
+                lefts[table] = 0;
+                rights[table] = 0;
+            }
+            return table;
         }
 
-        private void addToGroups(int e, int third, int left, int right) {
-            sums[group(0, third, 0, 0)].plus(weight(e));
-            sums[group(1, third, left, 0)].plus(weight(e));
-            sums[group(2, third, 0, right)].plus(weight(e));
-            sums[group(3, third, left, right)].plus(weight(e));
+        /** The number that a value has in its table, where it is counted if it is new. */
+        private int rankOf(int tag, int table, int value, int[] counts) {
+            int before = groups.total;
+            int id = group(tag, table, value);
+            if (id == before) {
+                ranks[id] = counts[table];
+                counts[table]++;
+            }
+            return ranks[id];
         }
 
-        private boolean productsAgree() {
+        /** Gives each table its cells: how many there are, or more than the most if they are more. */
+        private int placeTables(int most) {
+            int cells = 0;
+            for (int g = 0; g < groups.total && cells <= most; g++) {
+                if (groups.part(g, 0) == 0) {
+                    bases[g] = cells;
+                    cells += lefts[g] * rights[g];
+                }
+            }
+            return cells;
+        }
+
+        /** Links the nexts of each cell; false if there is a cell to which no run comes. */
+        private boolean linkCells(int cells) {
+            Arrays.fill(heads, NONE);
+            for (int k = atlas.states.total - 1; k >= 0; k--) {
+                for (int at = atlas.firsts[k + 1] - 1; at >= atlas.firsts[k]; at--) {
+                    if (comesToEnd(k, at)) {
+                        int cell = cellOf[atlas.numbers[at]];
+                        links[at] = heads[cell];
+                        heads[cell] = at;
+                    }
+                }
+            }
+            for (int c = 0; c < cells; c++) {
+                if (heads[c] == NONE) {
+                    return false;
+                }
+            }
+            return true;
+        }
+
+        boolean tablesAgree() {
             for (int g = 0; g < groups.total; g++) {
-                if (groups.part(g, 0) == 3) {
-                    int third = groups.part(g, 1);
-                    int left = groups.part(g, 2);
-                    int right = groups.part(g, 3);
-                    solver.sum.product(sums[g], sums[group(0, third, 0, 0)]);
-                    solver.less.product(sums[group(1, third, left, 0)], sums[group(2, third, 0, right)]);
-                    if (solver.sum.compare(solver.less) != 0) {
+                if (groups.part(g, 0) == 0) {
+                    int wide = Math.min(lefts[g], rights[g]);
+                    if (wide > 1 && !rowsAgree(bases[g], Math.max(lefts[g], rights[g]), wide)) {
                         return false;
                     }
                 }
             }
             return true;
+        }
+
+        /** Whether all rows of a table are multiples of its first one, which alone is held: it is the shorter side. */
+        private boolean rowsAgree(int base, int tall, int wide) {
+            solver.whole.put(1);
+            for (int c = base; c < base + tall * wide; c++) {
+                throughCell(c, true);
+            }
+            for (int column = 0; column < wide; column++) {
+                throughCell(base + column, false);
+                edge(column).copy(solver.sum);
+            }
+            for (int row = 1; row < tall; row++) {
+                int first = base + row * wide;
+                throughCell(first, false);
+                held.copy(solver.sum);
+                for (int column = 1; column < wide; column++) {
+                    throughCell(first + column, false);
+                    solver.less.product(solver.sum, edge(0));
+                    solver.term.product(held, edge(column));
+                    if (solver.less.compare(solver.term) != 0) {
+                        return false;
+                    }
+                }
+            }
+            return true;
+        }
+
+        private Num edge(int column) {
+            if (edges[column] == null) {
+                edges[column] = new Num(4);
+            }
+            return edges[column];
+        }
+
+        /** Goes through the states that lead to a cell: they join the solver's whole, or its sum becomes their weight. */
+        private void throughCell(int cell, boolean joins) {
+            solver.sum.put(0);
+            int k = 0;
+            int at = heads[cell];
+            long units = 0;
+            for (int n = 0; n < atlas.nexts && at != NONE; n++) {
+                while (k + 1 < atlas.states.total && atlas.firsts[k + 1] <= at) {
+                    k++;
+                }
+                units += atlas.weights[at];
+                at = links[at];
+                if (at == NONE || at >= atlas.firsts[k + 1]) {
+                    solver.unit(k);
+                    if (joins) {
+                        calc.join(solver.whole, solver.part.bottom);
+                    } else {
+                        solver.addTerm(units);
+                    }
+                    units = 0;
+                }
+            }
         }
     }
 }

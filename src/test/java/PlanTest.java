@@ -85,8 +85,8 @@ public final class PlanTest {
         Check.due("best() with a ring of one", y.best(), -2);
     }
 
-    private static String chain(int flips) {
-        StringBuilder text = new StringBuilder("var v; var c; func main() { c = choose(2); ");
+    private static String chain(int flips, String first) {
+        StringBuilder text = new StringBuilder("var v; var c; func main() { " + first);
         for (int n = 0; n < flips; n++) {
             text.append("v ~ flip(1, 1048575 - 48576); if v == 0 { return 0; } ");
         }
@@ -95,14 +95,16 @@ public final class PlanTest {
 
     /** The worth is 1 / 1000000 ^ flips: 20 bits each, less a little. */
     private static void bits() {
-        ChanceWorks x = Check.explored(chain(12));
+        ChanceWorks x = Check.explored(chain(12, "c = choose(2); "));
         Check.due("solve()", x.solve(), 0);
         Check.due("best() of 240 bits", x.best(), 0);
         Check.due("its worth", Check.show(x, 11, 0), "1/1" + "0".repeat(72));
-        ChanceWorks y = Check.explored(chain(13));
+        ChanceWorks y = Check.explored(chain(13, "c = choose(2); "));
         y.decide(0, 1);
         Check.due("best() of 260 bits", y.best(), -3);
         Check.due("the plan stays", y.decided(0), 1);
         Check.due("show(11, 0)", Check.of(() -> y.show(11, 0)), "IllegalStateException");
+        Check.due("best() of 240 bits at a draw", Check.explored(chain(12, "")).best(), 0);
+        Check.due("best() of 260 bits at a draw", Check.explored(chain(13, "")).best(), -3);
     }
 }

@@ -83,6 +83,11 @@ public final class SolveTest {
         Check.due("limb(0, 0)", z.limb(0, 0), Integer.MIN_VALUE);
         ChanceWorks g = Check.solved("func main() { gain 0 - 999999999 - 999999999 - 147483650; }");
         Check.due("the least gain", Check.show(g, 7, 0), "-2147483648/1");
+        ChanceWorks f = Check.solved("var v; func main() { v ~ pick(3); if v == 2 { v = 1 / 0; } return v * 4; }");
+        Check.due("the average of those that END", Check.show(f, 10, 0), "2/1");
+        Check.due("odds among failures too", Check.show(f, 0, 4), "1/3");
+        ChanceWorks many = Check.solved("var v; func main() { v ~ { 1 : 1000000, 2 : 1000000, 3 : 1000000, 4 : 999999 }; return 0 - 999999999 - 999999999 - v; }");
+        Check.due("an average of long numbers", Check.show(many, 10, 0), "-2666666000666666/1333333");
     }
 
     private static void plans() {
@@ -98,6 +103,18 @@ public final class SolveTest {
         x.explore(1000);
         Check.due("show(5, 0)", Check.of(() -> x.show(5, 0)), "IllegalStateException");
         Check.due("the plan is 0 again", x.decided(0), 0);
+        ChanceWorks last = Check.solved("var c; func main() { c ~ pick(2); c = choose(3); }");
+        Check.due("an ending that is chosen", Check.show(last, 2, 0), "1/1");
+        Check.due("an ending that is not", Check.show(last, 2, 2), "0/1");
+        Check.due("nothing is lost", Check.show(last, 5, 0), "0/1");
+        Check.due("all that is kept", Check.show(last, 6, 0), "1/1");
+        last.decide(2, 2);
+        last.solve();
+        Check.due("an ending that is chosen half the time", Check.show(last, 2, 2), "1/2");
+        ChanceWorks never = Check.solved("var c; func main() { c = choose(2); if c { return 1; } while 1 { } }");
+        Check.due("an end that no run comes to weighs nothing", Check.of(() -> never.show(0, 1)), "IllegalStateException");
+        Check.due("and has no average", Check.of(() -> never.show(10, 1)), "IllegalStateException");
+        Check.due("its weight", Check.show(never, 2, 0), "0/1");
     }
 
     private static String flips(int first, int second) {
@@ -125,6 +142,18 @@ public final class SolveTest {
         Check.due("solve() with 257 bits", y.solve(), -3);
         Check.due("show(9, 0)", Check.of(() -> y.show(9, 0)), "IllegalStateException");
         Check.due("solve() again", y.solve(), -3);
+        // Two ways of 140 bits each that share nothing come together.
+        ChanceWorks met = Check.explored("var v; func main() { local c = 0; c ~ pick(2); if c { " + ways(999983) + "c = 0; } else { " + ways(999979) + "c = 0; } c = 0; }");
+        Check.due("solve() where two ways meet", met.solve(), -3);
+        ChanceWorks apart = Check.explored("var v; func main() { local c = 0; c ~ pick(2); if c { " + ways(999983) + "c = 0; } else { " + ways(999979) + "c = 0; } }");
+        Check.due("solve() where they only end alike", apart.solve(), 0);
+        Check.due("a weight of more than 256 bits", Check.show(apart, 0, 0).length() > 160 ? 1 : 0, 1);
+        ChanceWorks ring = Check.explored("var v; func main() { while v < 99 { v ~ { (v + 1) % 16 : 999983 - v, 99 : 1 + v }; } }");
+        Check.due("solve() of a ring with long visits", ring.solve(), -3);
+    }
+
+    private static String ways(int total) {
+        return ("v ~ flip(1, " + (total - 1) + "); if v { return 1; } ").repeat(7);
     }
 
     private static String oddsOfLast(int first, int second) {
