@@ -499,7 +499,8 @@ public final class ChanceWorks {
             x = y;
             y = rest;
         }
-        return x;
+        // It is divided by, so it is never 0.
+        return Math.max(x, 1);
     }
 
     private static long commonLong(long a, long b) {
