@@ -146,6 +146,7 @@ public final class RunEdgesTest {
         exp("- ! 0", -1);
         exp("! - 0", 1);
         exp("( 3 == 3 ) + ( 3 != 3 ) * 10", 1);
+        exp("( 3 == 4 ) + ( 3 != 4 ) * 10", 10);
         exp("( 2 < 3 ) + ( 3 < 3 ) * 10 + ( 4 < 3 ) * 100", 1);
         exp("( 2 <= 3 ) + ( 3 <= 3 ) * 10 + ( 4 <= 3 ) * 100", 11);
         exp("( 2 > 3 ) + ( 3 > 3 ) * 10 + ( 4 > 3 ) * 100", 100);
@@ -163,6 +164,7 @@ public final class RunEdgesTest {
         exp("1 | 1 & 0", 1);
         exp("0 & 0 | 1", 1);
         exp("1 + 1 == 2 & 3 == 1 + 2", 1);
+        ranks();
         fails("k = a [ 3 ] + 1 / 0 ;", 1);
         fails("k = 1 / 0 + a [ 3 ] ;", 2);
         fails("k = a [ 1 / 0 ] ;", 2);
@@ -170,6 +172,51 @@ public final class RunEdgesTest {
         fails("k ~ { 1 : a [ 3 ] , 1 / 0 : 1 } ;", 1);
         fails("k ~ flip ( 1 / 0 , a [ 3 ] ) ;", 2);
         fails("k ~ flip ( - 1 , a [ 3 ] ) ;", 1);
+    }
+
+    /** Each sign beside one of the rank above it, on either side, where the other order would answer something else. */
+    private static void ranks() {
+        exp("1 | 1 & 0", 1);
+        exp("0 & 1 | 1", 1);
+        exp("2 & 1 == 1", 1);
+        exp("0 == 0 & 0", 0);
+        exp("0 == 2 & 1", 0);
+        exp("1 + 1 == 3", 0);
+        exp("3 == 1 + 1", 0);
+        exp("5 - 1 == 4", 1);
+        exp("4 == 5 - 1", 1);
+        exp("2 < 1 + 3", 1);
+        exp("1 + 3 < 2", 0);
+        exp("4 <= 1 + 3", 1);
+        exp("1 + 3 <= 4", 1);
+        exp("4 > 1 + 3", 0);
+        exp("1 + 3 > 2", 1);
+        exp("4 >= 5 - 1", 1);
+        exp("5 - 1 >= 4", 1);
+        exp("4 != 5 - 1", 0);
+        exp("5 - 1 != 4", 0);
+        exp("1 + 2 * 3", 7);
+        exp("2 * 3 + 1", 7);
+        exp("7 - 6 / 2", 4);
+        exp("6 / 2 - 7", -4);
+        exp("7 + 7 % 4", 10);
+        exp("7 % 4 + 7", 10);
+        exp("- 7 / 2 * 2", -6);
+        exp("2 * - 3", -6);
+        exp("2 - - 3", 5);
+        exp("! 2 * 3", 0);
+        exp("! 0 * 3", 3);
+        exp("- 2 + 5", 3);
+        exp("! 1 == 0", 1);
+        exp("- 1 < 0 & ! 0", 1);
+        exp("2 * 3 % 4", 2);
+        exp("7 % 4 * 2", 6);
+        exp("9 - 3 + 2", 8);
+        exp("8 / 4 / 2", 1);
+        exp("( 1 | 1 ) & 0", 0);
+        exp("2 * ( 3 + 4 )", 14);
+        exp("- ( 2 + 5 )", -7);
+        exp("! ( 1 == 0 )", 1);
     }
 
     private static void placesOfArrays() {

@@ -76,9 +76,10 @@ final class Check {
         return x;
     }
 
-    /** What is shown, as a fraction of decimal numbers. */
+    /** What is shown, as a fraction of decimal numbers; its sign must be one of three, and 0 for nothing alone. */
     static String fraction(ChanceWorks x, int sign) {
         String top = part(x, 0).toString();
+        due("the size of the sign " + sign, Math.abs((long) sign), top.equals("0") ? 0 : 1);
         return (sign < 0 ? "-" : "") + top + "/" + part(x, 1);
     }
 
