@@ -55,7 +55,15 @@ public final class AgainTest {
             Check.due("program() of " + fault + " once more", Check.program(x, fault) < 0 ? 1 : 0, 1);
             Check.due("statements stay", x.count(3), 10);
             Check.due("the play stays", x.played(2), 10);
+            Check.due("as many blocks behind " + fault, Check.program(x, blocks()), 41);
+            Check.due("their play", x.play(1, 2000), 1);
+            Check.due("what is within them all", x.played(4), 5);
+            Check.due("what is behind them all", x.played(1), 6);
         }
+    }
+
+    private static String blocks() {
+        return "func main(){" + "if 1{".repeat(39) + "gain 5;" + "}".repeat(39) + "return 6;}";
     }
 
     private static void fullTextsOneByOne() {

@@ -11,6 +11,7 @@ public final class FullTest {
         hundredFiftyStatements();
         deepExpressions();
         thousandTables();
+        theLastOfManyTables();
         widestTable();
         Check.end();
     }
@@ -135,6 +136,18 @@ public final class FullTest {
         Check.due("given(0, 2, 1), with 5 tables of 25 and 200", x.given(0, 2, 1) ? 1 : 0, 0);
         Check.due("independent(2, 2), with 1000 and 1000", x.independent(2, 2) ? 1 : 0, 0);
         Check.due("independent(0, 1)", x.independent(0, 1) ? 1 : 0, 1);
+    }
+
+    /** 960 tables of one ending each, and one of 40 (or 39, where two hang together) behind them. */
+    private static void theLastOfManyTables() {
+        String each = "w~{u*40+v*8:1,u*40+v*8+1:2,u*40+v*8+2:3,u*40+v*8+3:4,u*40+v*8+4:5,u*40+v*8+5:6,u*40+v*8+6:7,u*40+v*8+7:8};";
+        for (int off = 0; off <= 1; off++) {
+            ChanceWorks x = Check.solved("var u;var v;var w=5000;var y;func main(){u~pick(25);v~pick(5);if u<24{" + each + "}else{y~pick(8-(v==4)*" + off + ");}}");
+            Check.due("endings", x.count(5), 1000 - off);
+            Check.due("given(1, 3, 2), off by " + off, x.given(1, 3, 2) ? 1 : 0, 1 - off);
+            Check.due("given(3, 1, 2), off by " + off, x.given(3, 1, 2) ? 1 : 0, 1 - off);
+            Check.due("given(1, 3, 0), off by " + off, x.given(1, 3, 0) ? 1 : 0, 1 - off);
+        }
     }
 
     /** As wide a table as 1000 endings can fill, all of whose cells count, the last one too. */
